@@ -31,7 +31,6 @@ public final class GuestNoes {
     private Table spareTable = new Table();
 
     public GuestNoes() {
-        night.begin(table);
     }
 
     // ---- the evening
@@ -823,10 +822,6 @@ public final class GuestNoes {
 
         private boolean isUp(int g) {
             return isSeat(g) && (row[UP] >> g & 1) != 0;
-        }
-
-        private boolean walks(int g) {
-            return isSeat(g) && (row[WALKING] >> g & 1) != 0;
         }
 
         /** The first claim at which he can still be told: the one he said last stands open. */

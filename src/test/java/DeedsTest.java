@@ -45,6 +45,7 @@ public final class DeedsTest {
         Check.is("never had one", x.no(3, 0), Check.NOT);
         x.hour(1);
         Check.is("mild, at the last", x.no(1, 0), 8);
+        Check.is("who was told", x.told(10), 3);
         Check.is("learned, not true", x.no(2, 3), 14);
         Check.is("glad", x.told(7), 31);
         x.bed(2);

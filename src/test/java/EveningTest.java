@@ -6,6 +6,7 @@ public final class EveningTest {
         fullText();
         evenings();
         emptyText();
+        textAfterText();
         eveningForgets();
         outOfPlace();
         badNumbers();
@@ -120,6 +121,22 @@ public final class EveningTest {
         Check.is("the seed stays", x.seed(0), 77);
         Check.is("blanks alone", Check.read(x, "   "), 0);
         Check.is("no evening", x.told(0), 0);
+    }
+
+    private static void textAfterText() {
+        GuestNoes x = Check.moor();
+        Check.read(x, "t9;g1 20,30;h2 2;");
+        Check.is("a third text", Check.read(x, "t2;g5 70;g6 60;"), 2);
+        Check.is("one claim", x.guest(0, 1), 1);
+        Check.is("it", x.claim(0, 0, 0), 7);
+        Check.is("no other", x.claim(0, 1, 0), Check.NONE);
+        Check.is("nobody's", x.told(13), 63);
+        Check.is("no hosts", x.told(2), 0);
+        Check.is("truths", x.told(3), 2);
+        Check.is("then none", x.evening(), 0);
+        Check.is("no truths", x.told(3), 0);
+        Check.is("then none again", x.evening(), 0);
+        Check.is("no truths", x.told(3), 0);
     }
 
     private static void eveningForgets() {

@@ -64,6 +64,7 @@ public final class HeardTest {
         Check.is("of like ones the least", Check.evening("t0;g0 30;g0 10;g0 10,30;").ask(), 1);
         Check.is("the greater part is least", Check.evening("t0;g0 0,70;g0 0,70;g0 0;g0 5;").ask(), 7);
         Check.is("most claim it", Check.evening("t0;g0 40;g0 40;g0 40;g0 50,40;g0 50;").ask(), 5);
+        Check.is("the first topic", Check.evening("t0;g0 5;g0 15;").ask(), 0);
         Check.is("the last topic", Check.evening("t0;g0 5;g0 5,70;").ask(), 7);
     }
 

@@ -171,6 +171,8 @@ public final class TriedTest {
         for (int k = 0; k < 5; k++) {
             Check.is("now " + k, x.now(0, 0, k), due[k]);
         }
+        Check.is("the next is better", Check.evening("t0;g0 2,6;h0 1;").now(0, 0, 0), 0);
+        Check.is("the one ahead is better", Check.evening("t0;g0 6,2;h0 1;").now(0, 0, 1), 0);
         Check.is("daughter", x.now(0, 1, 0), 1);
         Check.is("daughter", x.now(0, 1, 2), 0);
         Check.is("the only one", x.now(1, 1, 0), 1);
