@@ -9,17 +9,35 @@ final class Check {
     static final int NOT = -1000000003;
     static final int FULL = -1000000004;
 
+    /** Numbers that are out of all bounds, and would wrap around where somebody counts with them. */
+    private static final int[] FAR_OFF = {Integer.MIN_VALUE, Integer.MIN_VALUE + 1, UNKNOWN, -64, -32, Integer.MAX_VALUE};
+
+    private static String about = "";
     private static int made = 0;
     private static int wrong = 0;
 
     private Check() {
     }
 
+    /** A call with all but one of its numbers settled. */
+    interface Call {
+        int of(int v);
+    }
+
+    /** What the checks from here on are about; it stands ahead of what they print. */
+    static void about(String sentence) {
+        about = sentence + ": ";
+    }
+
+    static int made() {
+        return made;
+    }
+
     static void is(String what, long got, long want) {
         made++;
         if (got != want) {
             wrong++;
-            System.out.println(what + " answered " + got + ", due is " + want);
+            System.out.println(about + what + " answered " + got + ", due is " + want);
         }
     }
 
@@ -27,7 +45,7 @@ final class Check {
         made++;
         if (!got.equals(want)) {
             wrong++;
-            System.out.println(what + ": it is\n  " + got + "\ndue is\n  " + want);
+            System.out.println(about + what + ": it is\n  " + got + "\ndue is\n  " + want);
         }
     }
 
@@ -35,8 +53,37 @@ final class Check {
         made++;
         if (!so) {
             wrong++;
-            System.out.println(what + ": not so");
+            System.out.println(about + what + ": not so");
         }
+    }
+
+    /** Beyond its bounds a number is OUTSIDE; at them it is not. */
+    static void bounds(String what, int least, int most, Call call) {
+        holds(what + ": " + least + " is not outside", call.of(least) != OUTSIDE);
+        holds(what + ": " + most + " is not outside", call.of(most) != OUTSIDE);
+        is(what + ": " + (least - 1), call.of(least - 1), OUTSIDE);
+        if (most < Integer.MAX_VALUE) {
+            is(what + ": " + (most + 1), call.of(most + 1), OUTSIDE);
+        }
+        for (int v : FAR_OFF) {
+            if (v < least || v > most) {
+                is(what + ": " + v, call.of(v), OUTSIDE);
+            }
+        }
+    }
+
+    /** Of so many, those from 0 on are known, others are UNKNOWN. */
+    static void known(String what, int count, Call call) {
+        for (int v = 0; v < count; v++) {
+            holds(what + ": " + v + " is known", call.of(v) != UNKNOWN);
+        }
+        for (int v = count; v < 40; v++) {
+            is(what + ": " + v, call.of(v), UNKNOWN);
+        }
+        for (int v : FAR_OFF) {
+            is(what + ": " + v, call.of(v), UNKNOWN);
+        }
+        is(what + ": -2", call.of(-2), UNKNOWN);
     }
 
     /** Ends the test's process: with 1 if anything was not as due, or if nothing was looked at. */
